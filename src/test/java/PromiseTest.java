@@ -1,16 +1,5 @@
 /** One method for each promise of the document: ordinary inputs, edges, wrong inputs. */
-public final class PromiseTest {
-    private static final Class<?> INDEX = IndexOutOfBoundsException.class;
-    private static final Class<?> ARGUMENT = IllegalArgumentException.class;
-    private static final Class<?> STATE = IllegalStateException.class;
-
-    private static int wrong = 0;
-    private static String promise = "";
-
-    private interface Call {
-        long answer();
-    }
-
+public final class PromiseTest extends Checks {
     public static void main(String[] args) {
         newObject();
         ship();
@@ -40,14 +29,11 @@ public final class PromiseTest {
         shakesNeeded();
         softness();
         digest();
-        System.out.println(wrong == 0 ? "PromiseTest: all as promised" : wrong + " answers are wrong");
-        if (wrong != 0) {
-            System.exit(1);
-        }
+        end("PromiseTest");
     }
 
     private static void newObject() {
-        promise = "1";
+        sentence("promise 1");
         SiloPads x = new SiloPads();
         for (int silo = 0; silo < 4; silo++) {
             siloIs(x, silo, 0, 0, 0, 0, 0, 0);
@@ -66,7 +52,7 @@ public final class PromiseTest {
     }
 
     private static void ship() {
-        promise = "2";
+        sentence("promise 2");
         SiloPads x = new SiloPads();
         due("first", x.ship(0, 900, 900), 0);
         due("second", x.ship(0, 0, 0), 900);
@@ -92,7 +78,7 @@ public final class PromiseTest {
     }
 
     private static void unload() {
-        promise = "3";
+        sentence("promise 3");
         SiloPads x = new SiloPads();
         x.ship(1, 900, 900);
         due("as told", x.unload(2, 1, 300), 300);
@@ -117,7 +103,7 @@ public final class PromiseTest {
     }
 
     private static void unloadHasPlace() {
-        promise = "3, place";
+        sentence("promise 3, place");
         SiloPads x = new SiloPads();
         fill(x, 0, 500, 500, 150);
         x.ship(0, 900, 900);
@@ -136,7 +122,7 @@ public final class PromiseTest {
     }
 
     private static void flow() {
-        promise = "4";
+        sentence("promise 4");
         SiloPads x = new SiloPads();
         fill(x, 0, 300);
         due("no pads, soft", x.flow(0, 1, 2), 10);
@@ -173,7 +159,7 @@ public final class PromiseTest {
     }
 
     private static void flowOverLayers() {
-        promise = "4, layers";
+        sentence("promise 4, layers");
         SiloPads x = new SiloPads();
         fill(x, 0, 100, 100);
         x.pads(0, 2);
@@ -202,7 +188,7 @@ public final class PromiseTest {
     }
 
     private static void flowUnderArch() {
-        promise = "4, arch";
+        sentence("promise 4, arch");
         SiloPads x = archedSilo(100, 50);
         x.pads(0, 4);
         x.ship(1, 900, 0);
@@ -215,7 +201,7 @@ public final class PromiseTest {
     }
 
     private static void pads() {
-        promise = "5";
+        sentence("promise 5");
         SiloPads x = new SiloPads();
         due("first", x.pads(0, 4), 0);
         due("as many as it bears", x.pads(1, 2), 0);
@@ -238,7 +224,7 @@ public final class PromiseTest {
     }
 
     private static void shake() {
-        promise = "6";
+        sentence("promise 6");
         SiloPads x = archedSilo(100, 199, 1);
         x.set(3, 201);
         due("too few tonnes", x.shake(0), 0);
@@ -262,7 +248,7 @@ public final class PromiseTest {
     }
 
     private static void shakeThirdTime() {
-        promise = "6, third";
+        sentence("promise 6, third");
         SiloPads x = archedSilo(100, 10);
         due("first", x.shake(0), 0);
         due("second", x.shake(0), 0);
@@ -281,7 +267,7 @@ public final class PromiseTest {
     }
 
     private static void pass() {
-        promise = "7";
+        sentence("promise 7");
         SiloPads x = new SiloPads();
         fill(x, 0, 50, 50);
         fill(x, 1, 50, 50);
@@ -314,7 +300,7 @@ public final class PromiseTest {
     }
 
     private static void set() {
-        promise = "8";
+        sentence("promise 8");
         SiloPads x = new SiloPads();
         int[] least = {0, 1, 5, 0};
         int[] most = {16, 20, 100, 900};
@@ -337,7 +323,7 @@ public final class PromiseTest {
     }
 
     private static void append() {
-        promise = "9";
+        sentence("promise 9");
         SiloPads x = new SiloPads();
         due("least", x.append(33), 1);
         due("most", x.append(126), 2);
@@ -353,7 +339,7 @@ public final class PromiseTest {
     }
 
     private static void clearBuffer() {
-        promise = "10";
+        sentence("promise 10");
         SiloPads x = new SiloPads();
         due("empty", x.clearBuffer(), 0);
         type(x, "+1;");
@@ -365,7 +351,7 @@ public final class PromiseTest {
     }
 
     private static void firstError() {
-        promise = "11";
+        sentence("promise 11");
         String[] texts = {"", "4", "/", "x", "<", ";", "0", "3<", "0+", "0=", "0<6", "0>/", "0<5;", "0<5:", "0<5:0", "0>5:0",
             "0<5:500", "0<5:501", "0<5:499", "0<5:50", "0<5:51", "0<5:510", "0<5:600", "0<5:1000", "0>5:24", "0>5:25", "0>5:240",
             "0>5:3", "0>5:31", "+", "+0", "+1", "+30", "+31", "+300", "+4", "+40", "+1;", "+1;;", "+1;+30;0<0:9;3>5:2", "+1+",
@@ -390,7 +376,7 @@ public final class PromiseTest {
     }
 
     private static void play() {
-        promise = "12";
+        sentence("promise 12");
         SiloPads x = new SiloPads();
         x.ship(1, 900, 700);
         type(x, "2<1:500;2<1:100;2<1:50;+4;2>3:2;+30");
@@ -421,7 +407,7 @@ public final class PromiseTest {
     }
 
     private static void undo() {
-        promise = "13";
+        sentence("promise 13");
         SiloPads x = new SiloPads();
         dueThrow(x, "none", STATE, () -> x.undo());
         for (int k = 0; k < 9; k++) {
@@ -453,7 +439,7 @@ public final class PromiseTest {
     }
 
     private static void silo() {
-        promise = "14";
+        sentence("promise 14");
         SiloPads x = archedSilo(100, 50);
         siloIs(x, 0, 150, 2, 0, 1, 0, 0);
         x.shake(0);
@@ -486,7 +472,7 @@ public final class PromiseTest {
     }
 
     private static void layer() {
-        promise = "15";
+        sentence("promise 15");
         SiloPads x = new SiloPads();
         fill(x, 1, 10, 20);
         int[] kinds = {0, 0, 1, 1, 1, 2, 2, 2};
@@ -513,7 +499,7 @@ public final class PromiseTest {
     }
 
     private static void shipOf() {
-        promise = "16";
+        sentence("promise 16");
         SiloPads x = new SiloPads();
         x.ship(5, 8, 3);
         due("tonnes", x.shipOf(5, 0), 3);
@@ -525,7 +511,7 @@ public final class PromiseTest {
     }
 
     private static void count() {
-        promise = "17";
+        sentence("promise 17");
         SiloPads x = archedSilo(100, 50);
         x.pads(0, 3);
         x.pads(1, 1);
@@ -541,7 +527,7 @@ public final class PromiseTest {
     }
 
     private static void whyNot() {
-        promise = "18";
+        sentence("promise 18");
         SiloPads x = archedSilo(30, 50);
         x.ship(1, 0, 0);
         due("no layers before a full ship", x.whyNot(1, 1), 1);
@@ -561,7 +547,7 @@ public final class PromiseTest {
     }
 
     private static void ifFlowed() {
-        promise = "19";
+        sentence("promise 19");
         SiloPads x = new SiloPads();
         fill(x, 0, 100, 100);
         x.ship(1, 900, 0);
@@ -590,7 +576,7 @@ public final class PromiseTest {
     }
 
     private static void urgent() {
-        promise = "20";
+        sentence("promise 20");
         SiloPads x = new SiloPads();
         due("none", x.urgent(), SiloPads.NONE);
         x.ship(0, 900, 900);
@@ -616,7 +602,7 @@ public final class PromiseTest {
     }
 
     private static void nextArch() {
-        promise = "21";
+        sentence("promise 21");
         SiloPads x = new SiloPads();
         due("none", x.nextArch(), SiloPads.NONE);
         x.ship(0, 900, 900);
@@ -644,7 +630,7 @@ public final class PromiseTest {
     }
 
     private static void shakesNeeded() {
-        promise = "22";
+        sentence("promise 22");
         SiloPads x = archedSilo(100, 199);
         due("none", x.shakesNeeded(1), 0);
         due("three", x.shakesNeeded(0), 3);
@@ -673,7 +659,7 @@ public final class PromiseTest {
     }
 
     private static void softness() {
-        promise = "23";
+        sentence("promise 23");
         SiloPads x = new SiloPads();
         dueDouble("empty", x.softness(), 1.0);
         x.ship(0, 900, 900);
@@ -696,7 +682,7 @@ public final class PromiseTest {
     }
 
     private static void digest() {
-        promise = "24";
+        sentence("promise 24");
         due("new", new SiloPads().digest(), hashOf(new SiloPads(), ""));
         SiloPads x = everything();
         due("full", x.digest(), hashOf(x, ""));
@@ -713,67 +699,6 @@ public final class PromiseTest {
         }
     }
 
-    /** All that can be seen but the number of saved states, which undo changes, and the buffer. */
-    private static String view(SiloPads x) {
-        StringBuilder seen = new StringBuilder();
-        for (int what = 0; what < 14; what++) {
-            seen.append(x.count(what)).append(' ');
-        }
-        for (int silo = 0; silo < 4; silo++) {
-            for (int what = 0; what < 6; what++) {
-                seen.append(x.silo(silo, what)).append(' ');
-            }
-            for (int layer = 0; layer < x.silo(silo, 1); layer++) {
-                seen.append(x.layer(silo, layer, 0)).append('/').append(x.layer(silo, layer, 1)).append(' ');
-            }
-            seen.append(x.whyNot(silo, 0)).append(x.shakesNeeded(silo)).append(' ');
-        }
-        for (int ship = 0; ship < 6; ship++) {
-            seen.append(x.shipOf(ship, 0)).append('/').append(x.shipOf(ship, 1)).append(' ');
-        }
-        return seen.toString();
-    }
-
-    private static long hashOf(SiloPads x, String buffer) {
-        long hash = 3533;
-        for (int what = 0; what < 15; what++) {
-            hash = 31 * hash + x.count(what);
-        }
-        for (int silo = 0; silo < 4; silo++) {
-            for (int what = 0; what < 6; what++) {
-                hash = 31 * hash + x.silo(silo, what);
-            }
-            for (int layer = 0; layer < x.silo(silo, 1); layer++) {
-                for (int what = 0; what < 3; what++) {
-                    hash = 31 * hash + x.layer(silo, layer, what);
-                }
-            }
-            hash = 31 * hash + x.shakesNeeded(silo);
-            hash = 31 * hash + x.whyNot(silo, 0);
-            hash = 31 * hash + x.ifFlowed(silo, 0, 4, 4);
-        }
-        for (int ship = 0; ship < 6; ship++) {
-            hash = 31 * hash + x.shipOf(ship, 0);
-            hash = 31 * hash + x.shipOf(ship, 1);
-        }
-        hash = 31 * hash + x.urgent();
-        hash = 31 * hash + x.nextArch();
-        hash = 31 * hash + Double.doubleToLongBits(x.softness());
-        hash = 31 * hash + buffer.length();
-        for (int k = 0; k < buffer.length(); k++) {
-            hash = 31 * hash + buffer.charAt(k);
-        }
-        return hash;
-    }
-
-    /** Silo 0 with these layers, the top one of 3 days and each one below a day older, and an arch. */
-    private static SiloPads archedSilo(int... tonnes) {
-        SiloPads x = new SiloPads();
-        fill(x, 0, tonnes);
-        due("an arch forms", x.pass(3), 1);
-        return x;
-    }
-
     private static SiloPads everything() {
         SiloPads x = archedSilo(100, 50);
         fill(x, 1, 400, 300);
@@ -783,80 +708,5 @@ public final class PromiseTest {
         x.flow(0, 4, 2);
         x.set(2, 7);
         return x;
-    }
-
-    /** Puts layers into a silo, a day between two, so the top one has the age 0; ship 0 goes empty. */
-    private static void fill(SiloPads x, int silo, int... tonnes) {
-        int softDays = x.count(11);
-        x.set(1, 20);
-        for (int k = 0; k < tonnes.length; k++) {
-            if (k > 0) {
-                due("no arch meanwhile", x.pass(1), 0);
-            }
-            x.ship(0, 900, tonnes[k]);
-            due("fills", x.unload(silo, 0, tonnes[k]), tonnes[k]);
-        }
-        x.set(1, softDays);
-    }
-
-    private static void type(SiloPads x, String text) {
-        for (int k = 0; k < text.length(); k++) {
-            x.append(text.charAt(k));
-        }
-    }
-
-    private static void siloIs(SiloPads x, int silo, int... numbers) {
-        for (int what = 0; what < 6; what++) {
-            due("silo " + silo + ", " + what, x.silo(silo, what), numbers[what]);
-        }
-    }
-
-    private static void layerIs(SiloPads x, int silo, int layer, int... numbers) {
-        for (int what = 0; what < 3; what++) {
-            due("layer " + silo + ", " + layer + ", " + what, x.layer(silo, layer, what), numbers[what]);
-        }
-    }
-
-    private static void countsAre(SiloPads x, int... counts) {
-        for (int what = 0; what < 15; what++) {
-            due("count " + what, x.count(what), counts[what]);
-        }
-    }
-
-    private static void due(String call, long got, long want) {
-        if (got != want) {
-            wrong++;
-            System.out.println("promise " + promise + ": " + call + " answered " + got + ", due is " + want);
-        }
-    }
-
-    private static void dueText(String call, String got, String want) {
-        if (!got.equals(want)) {
-            wrong++;
-            System.out.println("promise " + promise + ": " + call + " shows " + got + ", due is " + want);
-        }
-    }
-
-    private static void dueDouble(String call, double got, double want) {
-        if (got != want) {
-            wrong++;
-            System.out.println("promise " + promise + ": " + call + " answered " + got + ", due is " + want);
-        }
-    }
-
-    /** The call throws just this exception, and changes nothing. */
-    private static void dueThrow(SiloPads x, String call, Class<?> want, Call made) {
-        long before = x.digest();
-        Class<?> got = null;
-        try {
-            made.answer();
-        } catch (RuntimeException e) {
-            got = e.getClass();
-        }
-        if (got != want) {
-            wrong++;
-            System.out.println("promise " + promise + ": " + call + " threw " + got + ", due is " + want);
-        }
-        due(call + " changes nothing", x.digest(), before);
     }
 }
