@@ -8,6 +8,7 @@ public final class TermsEdgeTest extends Checks {
         layerOfOneTonneAtLeast();
         layerOf500TonnesAtMost();
         ageAtFirstZero();
+        ageAtFirstZeroWhereAnOlderLayerWas();
         siloHoldsAtMost1200();
         siloHoldsAtMost1200OnTop();
         topmostOfAgeZero();
@@ -137,6 +138,26 @@ public final class TermsEdgeTest extends Checks {
         x.unload(0, 0, 5);
         due("a newer one on top", x.layer(0, 1, 1), 0);
         due("the older one below", x.layer(0, 0, 1), 1);
+    }
+
+    private static void ageAtFirstZeroWhereAnOlderLayerWas() {
+        sentence("an age in days, at first 0: also of a layer that takes the place of one that is gone");
+        SiloPads x = aged(10, 30);
+        x.ship(0, 900, 900);
+        x.pads(0, 4);
+        due("the old one goes", x.flow(0, 1, 1), 10);
+        due("a new one comes", x.unload(0, 0, 3), 3);
+        layerIs(x, 0, 0, 3, 0, 0);
+        due("and is added to", x.unload(0, 0, 4), 4);
+        layersAre(x, 0, 7);
+        SiloPads y = filled(1, 1, 1, 1, 1, 1, 1, 1, 1, 1);
+        y.set(1, 20);
+        y.pass(3);
+        y.ship(0, 900, 900);
+        due("the lowest of ten goes", y.flow(0, 1, 1), 1);
+        due("a tenth comes", y.unload(0, 0, 2), 2);
+        layerIs(y, 0, 8, 1, 3, 0);
+        layerIs(y, 0, 9, 2, 0, 0);
     }
 
     private static void siloHoldsAtMost1200() {

@@ -512,11 +512,12 @@ public final class WouldBeEdgeTest extends Checks {
             type(x, "+9");
             due("with a buffer", x.digest(), hashOf(x, "+9"));
         }
-        SiloPads y = busy();
-        due("busy", y.digest(), hashOf(y, "0<1:"));
-        for (int left = 5; left >= 0; left--) {
-            y.undo();
-            due("undone to " + left, y.digest(), hashOf(y, "0<1:"));
+        for (int undone = 0; undone <= 6; undone++) {
+            SiloPads y = busy();
+            for (int k = 0; k < undone; k++) {
+                y.undo();
+            }
+            due("busy, undone " + undone, y.digest(), hashOf(y, "0<1:"));
         }
     }
 
